@@ -617,7 +617,7 @@ public final class CircuitDesk {
                 return;
             }
             int gate = FIRST_GATE + gates;
-            int before = depths[pair >> LITERAL_BITS + 1];
+            int before = depths[(pair >> LITERAL_BITS) >> 1];
             int behind = depths[(pair & LITERAL_MASK) >> 1];
             gates++;
             slots[slot] = gate;

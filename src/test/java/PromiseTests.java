@@ -834,6 +834,10 @@ public final class PromiseTests {
         x.state(WHEN, 0, 0);
         due("13 whens", x.count(7), 2);
         due("13 clocks in a draft", x.count(6), NONE);
+        x.clear(1);
+        due("13 no gates left", x.compile(), 0);
+        due("13 no depth left", x.count(4), 0);
+        due("13 no ones left", x.count(5), 0);
     }
 
     private static void orderAndLimits() {

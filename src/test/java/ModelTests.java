@@ -28,10 +28,11 @@ public final class ModelTests {
         }
         heavyNodes();
         heavySinks();
+        heaviest();
         System.out.println(compiled + " circuits compiled, at most " + mostGates + " gates; faults "
                 + FAULTS + "; " + wrong + " answers not as due");
-        if (compiled < RUNS || FAULTS.size() < 3) {
-            System.out.println("too few circuits of some kind were met");
+        if (compiled < RUNS || FAULTS.size() < 3 || mostGates < 1024) {
+            System.out.println("too few circuits of some kind were met, or none that is large");
             wrong++;
         }
         if (wrong != 0) {
@@ -65,6 +66,30 @@ public final class ModelTests {
         }
         for (int i = 0; i < 12; i++) {
             run.state(0, i, i < 3 ? 12 : i == 11 ? 13 : i + 1);
+        }
+        for (int i = 0; i < 4; i++) {
+            run.state(3, 0, 0);
+        }
+        run.lookAtAll();
+    }
+
+    /**
+     * Nearly as many gates as there can be: two comparisons make them and are conditions as well,
+     * and all other SIGNALS are REGISTERS that are set within four different conditions.
+     */
+    private static void heaviest() {
+        Run run = new Run(-3);
+        for (int i = 0; i < 12; i++) {
+            run.signal(2, i < 2 ? 1 : 8, 53 * i % 256);
+        }
+        run.node(7, 2, 3, 0);
+        run.node(7, 4, 5, 0);
+        for (int i = 0; i < 2; i++) {
+            run.state(1, i, 0);
+            run.state(1, 12 + i, 0);
+        }
+        for (int i = 0; i < 12; i++) {
+            run.state(0, i, i == 11 ? 2 : i + 1);
         }
         for (int i = 0; i < 4; i++) {
             run.state(3, 0, 0);

@@ -179,6 +179,7 @@ public final class CompilingBoundaryTests extends DeskTest {
         dueFor(deskWithWire0(), UNSET, 0);
         dueFor(deskWithWire0(), UNSET, 0, when(1), CLOSE);
         dueFor(deskWithWire0(), UNSET, 0, when(1), set(0, 1), CLOSE);
+        dueFor(deskWithWire0(), UNSET, 0, when(1), set(0, 1), OTHERWISE, CLOSE);
         dueFor(deskWithWire0(), UNSET, 0, when(1), OTHERWISE, set(0, 1), CLOSE);
         dueFor(deskWithWire0(), 0, NONE, when(1), set(0, 1), OTHERWISE, set(0, 1), CLOSE);
     }

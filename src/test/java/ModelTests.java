@@ -14,6 +14,7 @@ import java.util.Set;
  */
 public final class ModelTests {
     private static final int RUNS = 6000;
+    private static final int LARGE_RUNS = 20000;
     /** A step of a run makes some calls at once: with these it stays below 512. */
     private static final int CALLS = 480;
 
@@ -29,6 +30,9 @@ public final class ModelTests {
         heavyNodes();
         heavySinks();
         heaviest();
+        for (int run = 1; run <= LARGE_RUNS && wrong == 0; run++) {
+            new Run(-100 - run).goLarge();
+        }
         System.out.println(compiled + " circuits compiled, at most " + mostGates + " gates; faults "
                 + FAULTS + "; " + wrong + " answers not as due");
         if (compiled < RUNS || FAULTS.size() < 3 || mostGates < 1024) {
@@ -122,6 +126,30 @@ public final class ModelTests {
                     build(hurry);
                 }
             }
+        }
+
+        /** As many wide NODES as there is room for, and two REGISTERS set within WHENS. */
+        void goLarge() {
+            signal(0, 1, 0);
+            signal(0, 8, 0);
+            signal(2, 8, random.nextInt(256));
+            signal(2, 7, random.nextInt(256));
+            int[] ops = {3, 4, 5, 5, 5, 7, 7, 10};
+            for (int i = 0; i < 14; i++) {
+                int op = ops[random.nextInt(ops.length)];
+                int most = model.signals.size() - 1;
+                node(op, op == 10 ? 0 : 1 + random.nextInt(most), 1 + random.nextInt(most), 1 + random.nextInt(most));
+            }
+            for (int i = 0; i < 3; i++) {
+                state(1, any(), 0);
+                state(0, 2, any());
+                state(2, 0, 0);
+                state(0, 3, any());
+            }
+            for (int i = model.openWhens(); i > 0; i--) {
+                state(3, 0, 0);
+            }
+            lookAtAll();
         }
 
         void build(int hurry) {

@@ -576,6 +576,15 @@ public final class RunningBoundaryTests extends DeskTest {
         due("without", x.count(4), 0);
     }
 
+    static void promise13GreatestDepthIsNotThatOfTheLastGate() {
+        CircuitDesk x = deskWithInputs(1, 1, 1);
+        x.node(AND, 0, 1, 0);
+        x.node(AND, 3, 2, 0);
+        x.node(AND, 1, 2, 0);
+        due("gates", x.compile(), 3);
+        due("depth", x.count(4), 2);
+    }
+
     /** Also of GATES that no SIGNAL's value comes from: of NEXT BITS, and of a SET that never counts. */
     static void promise13GreatestDepthOfAllGates() {
         CircuitDesk x = deskWithInputs(1);
